@@ -717,13 +717,18 @@ public final class JackBoxes {
         if (boxes.laws[box] != LAW_L) {
             // no other law heeds looks, and one box's looks are nothing to the others
             trial.run(step);
-            return (trial.up[step] >> box & 1) == 0 ? 0 : wholeWeight(step);
+            return trial.isUp(box, step) ? wholeWeight(step) : 0;
         }
         long above = 0;
         int ways = 1 << step + 1;
         for (int looked = 0; looked < ways; looked++) {
             long weight = weight(c, looked, step);
-            if (weight != 0 && isUpIfLooked(box, step, looked)) {
+            if (weight == 0) {
+                continue;
+            }
+            trial.putLooks(box, looked, step);
+            trial.run(step);
+            if (trial.isUp(box, step)) {
                 above += weight;
             }
         }
@@ -742,15 +747,6 @@ public final class JackBoxes {
             weight *= (looked >> s & 1) != 0 ? c : SIXTEENTHS - c;
         }
         return weight;
-    }
-
-    private boolean isUpIfLooked(int box, int step, int looked) {
-        for (int s = 0; s <= step; s++) {
-            int others = trial.acts[LOOKED][s] & ~(1 << box);
-            trial.acts[LOOKED][s] = others | (looked >> s & 1) << box;
-        }
-        trial.run(step);
-        return (trial.up[step] >> box & 1) != 0;
     }
 
     private static long commonDivisor(long above, long below) {
@@ -895,6 +891,14 @@ public final class JackBoxes {
             numbers[box] = code % 10;
         }
 
+        /** The box is looked at in steps 0 to the last by the bits of looked alone. */
+        void putLooks(int box, int looked, int last) {
+            for (int step = 0; step <= last && step < STEPS; step++) {
+                int others = acts[LOOKED][step] & ~(1 << box);
+                acts[LOOKED][step] = others | (looked >> step & 1) << box;
+            }
+        }
+
         void run(int last) {
             for (int box = 0; box < count; box++) {
                 reaches[box] = placesAround(places[box], numbers[box]);
@@ -954,6 +958,10 @@ public final class JackBoxes {
                 default:
                     return false;
             }
+        }
+
+        boolean isUp(int box, int step) {
+            return (up[step] >> box & 1) != 0;
         }
 
         /** How many open in steps 0 to the last, all together. */

@@ -46,6 +46,7 @@ public final class PromiseTest {
         write();
         count();
         digest();
+        digestOfRuns();
         CHECK.end();
     }
 
@@ -249,6 +250,10 @@ public final class PromiseTest {
         due("12 read a LOST one", x.read(3), NULL);
         due("12 its finding", x.count(8), 1);
         due("12 refusals change nothing", x.first(0), 5);
+        layAll(x, 1, 0, 1, 0, 0, 8, 0, 2);
+        x.read(1);
+        due("12 a step, a box, an act", x.step(7, UP), 1);
+        due("12 in this order", x.step(8, UP), 0);
         x.sheet(2, 0, 60);
         due("12 read sixty items", x.read(2), 20);
         x.sheet(2, 0, 2);
@@ -306,6 +311,11 @@ public final class PromiseTest {
         due("13 nothing without a turn", x.step(1, OPENS), 0);
         x.tell(0, 0, TURNED);
         due("13 e by places", x.step(1, OPENS), 6);
+        x = boxes("t19;e19;x11;t19;e29");
+        x.tell(0, 3, TURNED);
+        due("13 e1 not by one two places to the right", x.step(1, OPENS), 16);
+        x.tell(0, 0, TURNED);
+        due("13 by either of two that opened at once", x.step(1, OPENS), 18);
     }
 
     private static void stepUnseen() {
@@ -353,6 +363,12 @@ public final class PromiseTest {
         due("13 step(0, -1)", x.step(0, -1), BAD);
         due("13 step(0, 2)", x.step(0, 2), BAD);
         due("13 none by a fault", boxes("l19;").step(59, UP), 0);
+        x.type(';');
+        due("13 asked again, with a byte more", x.step(59, UP), 0);
+        x.undo();
+        due("13 asked again, with a byte less", x.step(59, UP), 2);
+        x.wipe();
+        due("13 asked again, wiped", x.step(59, UP), 0);
     }
 
     private static void spring() {
@@ -388,6 +404,8 @@ public final class PromiseTest {
         x.tell(1, 3, TURNED);
         x.tell(1, 4, TURNED);
         due("16 of like ones the first", x.loudest(0), 1);
+        x.lids(30);
+        due("16 in step 0", x.loudest(0), 0);
         x.lids(511);
         due("16 none: step", x.loudest(0), NONE);
         due("16 none: how many", x.loudest(1), NONE);
@@ -400,6 +418,7 @@ public final class PromiseTest {
         x.tell(59, 2, TURNED);
         due("17 l5", x.first(0), 4);
         due("17 x", x.first(1), NONE);
+        due("17 in step 0", boxes("l19").first(0), 0);
         due("17 in step 59", x.first(2), 59);
         due("17 first(3)", x.first(3), BAD);
         due("17 first(-1)", x.first(-1), BAD);
@@ -414,6 +433,7 @@ public final class PromiseTest {
         x.tell(20, 1, SHUT);
         due("18 up to step 19", x.together(0, 1), 17);
         due("18 never", x.together(0, 2), 0);
+        due("18 in all steps", boxes("l19;l19").together(0, 1), 60);
         due("18 one twice", x.together(1, 1), BAD);
         due("18 together(0, 3)", x.together(0, 3), BAD);
         due("18 together(3, 0)", x.together(3, 0), BAD);
@@ -472,6 +492,9 @@ public final class PromiseTest {
         x.tell(0, 2, TURNED);
         x.tell(1, 2, SHUT);
         due("21 fewest ahead of least bits", x.hush(5, 1), 4);
+        x = boxes("l19;l19;l19;l19;l19;l19;l19;l19;l19");
+        due("21 all nine", x.hush(59, 0), 9);
+        due("21 their bits", x.hush(59, 1), 511);
         due("21 hush(60, 0)", x.hush(60, 0), BAD);
         due("21 hush(-1, 0)", x.hush(-1, 0), BAD);
         due("21 hush(0, 2)", x.hush(0, 2), BAD);
@@ -504,7 +527,9 @@ public final class PromiseTest {
         shelfRow(x, 1, 1, 0, 1, 2);
         x.back();
         x.tell(20, 0, TURNED);
+        due("22 what opens late in another plan", x.hush(59, 0), 1);
         shelfRow(x, 1, 0, 0, 1, 2);
+        shelfRow(x, 0, 0, 0);
         due("22 shelf(0, 0, -1)", x.shelf(0, 0, NONE), BAD);
         due("22 shelf(4, 0, -1)", x.shelf(4, 0, NONE), BAD);
         due("22 shelf(3, 2, -1)", x.shelf(3, 2, NONE), BAD);
@@ -603,6 +628,14 @@ public final class PromiseTest {
         due("27 heard without the turn", x.turn(1, 0), 1);
         x.heard(0, 1);
         due("27 no law is left", x.turn(1, 0), 0);
+        // t1 and l1 are left; shut in step 4, l1 opens in step 5, and t1 does if it is turned
+        x = boxes("t12;x11");
+        x.tell(0, 0, TURNED);
+        x.tell(4, 0, SHUT);
+        x.heard(0, 1);
+        due("27 its own turn would hide what it is", x.turn(0, 5), 1);
+        x = boxes("l19;l19;l19;l19;l19;l19;l19;l19;t19");
+        due("27 nine at once", x.turn(8, 0), 8);
         x = boxes("x11;x11;x11");
         due("27 by t1 alone it opens in step 59", x.turn(2, 59), 2);
         x.lids(4);
@@ -625,6 +658,7 @@ public final class PromiseTest {
         fraction(x, 8, 0, 1, 3, 4);
         fraction(x, 12, 0, 0, 1, 4);
         fraction(x, 1, 0, 0, 15, 16);
+        fraction(x, 15, 0, 0, 1, 16);
         fraction(x, 0, 0, 9, 1, 1);
         fraction(x, 16, 0, 9, 0, 1);
         fraction(x, 5, 2, 7, 0, 1);
@@ -784,6 +818,10 @@ public final class PromiseTest {
         x.sheet(1, 0, 5);
         due("35 to bytes", x.write(1, 1), 5);
         dueItems("the lowest bits", x, 1, 0, 0, 1, -127, -127, -127);
+        JackBoxes y = boxes("l19");
+        y.sheet(0, 1, 1);
+        due("35 step 0 alone", y.write(0, 0), 1);
+        due("35 to item 0", y.get(0, 1, 0), 1);
         x.sheet(2, 1, 60);
         due("35 all steps", x.write(1, 2), 60);
         due("35 behind the last", x.get(2, 1, 59), 385);
@@ -807,6 +845,10 @@ public final class PromiseTest {
         for (int what = 0; what < want.length; what++) {
             due("36 count(" + what + ")", x.count(what), want[what]);
         }
+        x = boxes("x12;t19");
+        x.tell(59, 1, TURNED);
+        due("36 one opens in step 59", x.count(6), 1);
+        due("36 box 0 has law x", x.count(7), 1);
         due("36 count(-1)", x.count(-1), BAD);
         due("36 count(9)", x.count(9), BAD);
     }
@@ -817,6 +859,58 @@ public final class PromiseTest {
             h = 31 * h + one;
         }
         return h;
+    }
+
+    /** The digest of what an object says of itself, call by call as the document lists them. */
+    private static long foldOfCalls(JackBoxes x) {
+        java.util.List<Long> all = new java.util.ArrayList<>();
+        java.util.function.LongConsumer put = all::add;
+        for (int what = 0; what <= 7; what++) {
+            put.accept(x.count(what));
+        }
+        put.accept(x.fault());
+        for (int place = 0; place <= 8; place++) {
+            put.accept(x.place(place));
+        }
+        for (int it = 0; it < x.count(0); it++) {
+            long[] ofBox = {x.box(it, 0), x.box(it, 1), x.box(it, 2), x.first(it), x.spring(9, it),
+                x.together(it, 0), x.hears(it, 2), x.learn(it, NONE), x.learn(it, 0),
+                x.looks(5, it, 4, 0), x.looks(5, it, 4, 1)};
+            java.util.Arrays.stream(ofBox).forEach(put);
+        }
+        for (int step : new int[] {0, 1, 2, 9, 59}) {
+            put.accept(x.step(step, OPENS));
+            put.accept(x.step(step, UP));
+        }
+        long[] rest = {x.quiet(), x.loudest(0), x.loudest(1), x.news(0, 0, 1), x.hush(9, 0), x.hush(9, 1),
+            x.shelf(3, 0, NONE), x.shelf(3, 0, 0), x.shelf(3, 1, NONE), x.shelf(3, 1, 0), x.empty(), x.turn(0, 4),
+            x.night(7, 20, 0), x.night(7, 20, 1)};
+        java.util.Arrays.stream(rest).forEach(put);
+        return fold(all.stream().mapToLong(one -> one).toArray());
+    }
+
+    private static void digestOfRuns() {
+        JackBoxes shutInStep3 = boxes("l11;l11");
+        shutInStep3.tell(3, 0, SHUT);
+        due("37 hears(it, 2), news(0, 0, 1)", shutInStep3.digest(), foldOfCalls(shutInStep3));
+        JackBoxes hidden = boxes("t12;x11");
+        hidden.tell(0, 0, TURNED);
+        hidden.tell(3, 0, SHUT);
+        hidden.heard(0, 1);
+        due("37 turn(0, 4)", hidden.digest(), foldOfCalls(hidden));
+        String[] texts = {"t19;e19;l39;x11", "t12;x11;e19;t29", "l23;t15;l99", "l19;l29;e29;w39;t99;l97;t22;e99;x88", NINE};
+        for (String text : texts) {
+            JackBoxes x = boxes(text);
+            due("37 " + text, x.digest(), foldOfCalls(x));
+            for (int k = 0; k < 20; k++) {
+                x.tell(k * 7 % 13, k * 5 % 4, k % 3);
+                x.swap(k % 9, k * 4 % 9);
+                if (k % 5 == 4) {
+                    x.heard(k / 2, 1);
+                }
+                due("37 " + text + ", " + k, x.digest(), foldOfCalls(x));
+            }
+        }
     }
 
     private static void digest() {
