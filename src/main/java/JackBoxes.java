@@ -160,15 +160,12 @@ public final class JackBoxes {
         if (from.lost) {
             return finding(NULL);
         }
-        told.size = 0;
-        courseIsOld = true;
-        for (int at = 0; at + 2 < from.size && at + 2 < MOST_ITEMS; at += 3) {
-            if (!Told.mayBe(from.items[at], from.items[at + 1], from.items[at + 2])) {
-                break;
-            }
-            told.add(from.items[at], from.items[at + 1], from.items[at + 2]);
+        int before = told.size;
+        boolean mayBe = true;
+        for (int at = 0; mayBe && at + 2 < from.size && at + 2 < MOST_ITEMS; at += 3) {
+            mayBe = tell(from.items[at], from.items[at + 1], from.items[at + 2]) > 0;
         }
-        return told.size;
+        return told.size - before;
     }
 
     // ---- steps

@@ -286,14 +286,15 @@ public final class Oracle {
     public int read(int s) {
         if (!in(s, 0, 3)) return BAD;
         if (sheets[s] == null) return find(1);
-        world.told.clear();
+        int many = 0;
         int length = java.lang.reflect.Array.getLength(sheets[s]);
         for (int k = 0; k < length / 3; k++) {
             int[] one = {item(sheets[s], 3 * k), item(sheets[s], 3 * k + 1), item(sheets[s], 3 * k + 2)};
-            if (!mayBeTold(one[0], one[1], one[2])) break;
+            if (!mayBeTold(one[0], one[1], one[2]) || world.told.size() == 24) break;
             world.told.add(one);
+            many++;
         }
-        return world.told.size();
+        return many;
     }
 
     public int step(int step, int what) {

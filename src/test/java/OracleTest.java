@@ -27,7 +27,7 @@ public final class OracleTest {
         put("lids", 4, new int[] {0, 511});
         put("tell", 30, new int[] {0, 25}, box, new int[] {0, 2});
         put("back", 4);
-        put("read", 2, sheet);
+        put("read", 5, sheet);
         put("step", 12, step, either);
         put("spring", 6, step, box);
         put("quiet", 4);

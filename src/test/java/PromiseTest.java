@@ -21,6 +21,8 @@ public final class PromiseTest {
         lids();
         tellAndBack();
         read();
+        readToTheLimit();
+        readNothing();
         stepByTurns();
         stepByAnother();
         stepUnseen();
@@ -233,32 +235,59 @@ public final class PromiseTest {
     private static void read() {
         JackBoxes x = boxes("t19");
         x.tell(9, 0, TURNED);
-        layAll(x, 0, 2, 1, 0, 0, 2, 8, 2, 3, 0);
-        due("12 read whole ones", x.read(0), 2);
-        due("12 they are told", x.first(0), 1);
-        due("12 they take the place of those before", x.count(2), 2);
+        layAll(x, 0, 2, 7, 0, 0, 8, 0, 2, 3, 0);
+        due("12 read whole ones, a step, a box, an act", x.read(0), 2);
+        due("12 they are told", x.first(0), 7);
+        due("12 in this order", x.step(8, UP), 0);
+        due("12 those before stay told", x.step(9, OPENS), 1);
+        due("12 all together", x.count(2), 3);
+        due("12 read once more", x.read(0), 2);
+        due("12 five now", x.count(2), 5);
         layAll(x, 1, 1, 5, 0, 0, 60, 0, 0, 4, 0, 0);
         due("12 read as long as each may be", x.read(1), 1);
         due("12 none behind", x.first(0), 5);
-        layAll(x, 1, 0, 5, 0, 0, 4, -1, 0);
+        layAll(x, 1, 0, 5, 0, 0, 4, -1, 0, 3, 0, 0);
         due("12 a box below 0", x.read(1), 1);
-        layAll(x, 1, 0, 5, 0, 0, 4, 0, 3);
+        layAll(x, 1, 0, 5, 0, 0, 4, 0, 3, 3, 0, 0);
         due("12 an act that there is not", x.read(1), 1);
-        layAll(x, 1, 2, 7, 0, 0);
+        due("12 none behind these", x.first(0), 5);
+        due("12 eight are told", x.count(2), 8);
         due("12 read(4)", x.read(4), BAD);
         due("12 read(-1)", x.read(-1), BAD);
         due("12 read a LOST one", x.read(3), NULL);
         due("12 its finding", x.count(8), 1);
-        due("12 refusals change nothing", x.first(0), 5);
-        layAll(x, 1, 0, 1, 0, 0, 8, 0, 2);
-        x.read(1);
-        due("12 a step, a box, an act", x.step(7, UP), 1);
-        due("12 in this order", x.step(8, UP), 0);
-        x.sheet(2, 0, 60);
-        due("12 read sixty items", x.read(2), 20);
+        due("12 refusals change nothing", x.count(2), 8);
         x.sheet(2, 0, 2);
         due("12 read two items", x.read(2), 0);
-        due("12 then none is told", x.count(2), 0);
+        due("12 none more is told", x.count(2), 8);
+        due("12 the last that was read is undone first", x.back(), 7);
+    }
+
+    private static void readToTheLimit() {
+        JackBoxes x = boxes("t19");
+        x.sheet(0, 0, 60);
+        due("12 read sixty items", x.read(0), 20);
+        due("12 twenty are told", x.count(2), 20);
+        x.tell(9, 1, TURNED);
+        due("12 as many as are left", x.read(0), 3);
+        due("12 twenty-four are told", x.count(2), 24);
+        due("12 none is left", x.read(0), 0);
+        due("12 a lost one when none is left", x.read(1), NULL);
+        due("12 still twenty-four", x.tell(0, 0, TURNED), FULL);
+        due("12 one is undone", x.back(), 23);
+        layAll(x, 1, 2, 4, 0, 2, 5, 0, 0);
+        due("12 there is one more", x.read(1), 1);
+        due("12 up ahead of it", x.step(3, UP), 1);
+        due("12 the first of them is told", x.step(4, UP), 0);
+        due("12 the other is not", x.step(5, OPENS), 0);
+    }
+
+    private static void readNothing() {
+        JackBoxes x = new JackBoxes();
+        x.tell(0, 0, TURNED);
+        due("12 a sheet without items", x.sheet(1, 0, 0), 0);
+        due("12 tells nothing", x.read(1), 0);
+        due("12 and what was told stays", x.back(), 0);
     }
 
     private static void stepByTurns() {
