@@ -10,13 +10,14 @@ public final class OracleTest {
     private static final int RUNS = 400;
     private static final int CALLS = 150;
 
-    /** By call, for each argument the least and the greatest that is well. */
+    /** By call, for each argument the least and the greatest that is well, and where less happens, up to where much does. */
     private static final Map<String, int[][]> ARGUMENTS = new HashMap<>();
     /** How often a call comes, against the others. */
     private static final Map<String, Integer> WEIGHTS = new HashMap<>();
 
     static {
-        int[] step = {0, 59}, box = {0, 8}, either = {0, 1}, sheet = {0, 3}, form = {0, 2}, item = {0, 20};
+        int[] step = {0, 59}, early = {0, 59, 20}, box = {0, 8}, either = {0, 1};
+        int[] sheet = {0, 3}, form = {0, 2}, item = {0, 59, 20};
         put("type", 2, new int[] {0, 255});
         put("wipe", 1);
         put("undo", 2);
@@ -25,7 +26,7 @@ public final class OracleTest {
         put("place", 2, box);
         put("swap", 8, box, box);
         put("lids", 4, new int[] {0, 511});
-        put("tell", 30, new int[] {0, 25}, box, new int[] {0, 2});
+        put("tell", 30, new int[] {0, 59, 25}, box, new int[] {0, 2});
         put("back", 4);
         put("read", 5, sheet);
         put("step", 12, step, either);
@@ -34,22 +35,22 @@ public final class OracleTest {
         put("loudest", 4, either);
         put("first", 6, box);
         put("together", 6, box, box);
-        put("news", 6, box, new int[] {0, 20}, box);
-        put("hears", 6, box, new int[] {0, 20});
+        put("news", 6, box, early, box);
+        put("hears", 6, box, early);
         put("hush", 2, step, either);
         put("shelf", 3, new int[] {1, 6}, either, new int[] {-1, 5});
-        put("heard", 6, new int[] {0, 20}, new int[] {0, 3});
+        put("heard", 6, early, new int[] {0, 9, 3});
         put("forget", 3);
         put("learn", 6, box, new int[] {-1, 36});
         put("empty", 4);
-        put("turn", 5, box, new int[] {0, 20});
+        put("turn", 5, box, early);
         put("looks", 3, new int[] {0, 16}, box, new int[] {0, 9}, either);
         put("night", 6, new int[] {-1000, 1000}, step, either);
         put("sheet", 5, sheet, form, new int[] {0, 60});
         put("lose", 1, sheet);
         put("lay", 10, sheet, form, item, new int[] {-1, 30});
         put("get", 8, sheet, form, item);
-        put("copy", 8, sheet, item, sheet, item, new int[] {0, 20});
+        put("copy", 8, sheet, item, sheet, item, new int[] {0, 60, 20});
         put("write", 4, either, sheet);
         put("count", 8, new int[] {0, 8});
         put("digest", 1);
@@ -61,12 +62,15 @@ public final class OracleTest {
     }
 
     private final Random random;
+    /** One argument in so many is below, one above, one far beyond what is well: in each second run many of them. */
+    private final int oneIn;
     private final JackBoxes boxes = new JackBoxes();
     private final Oracle oracle = new Oracle();
     private final List<String> said = new ArrayList<>();
 
     private OracleTest(long seed) {
         random = new Random(seed);
+        oneIn = seed % 2 == 0 ? 40 : 14;
     }
 
     public static void main(String[] args) throws Exception {
@@ -135,19 +139,20 @@ public final class OracleTest {
         int[][] bounds = ARGUMENTS.get(call);
         Object[] arguments = new Object[bounds.length];
         for (int k = 0; k < bounds.length; k++) {
-            arguments[k] = argument(bounds[k][0], bounds[k][1]);
+            arguments[k] = argument(bounds[k][0], bounds[k][1], bounds[k][bounds[k].length - 1]);
         }
         return arguments;
     }
 
-    private int argument(int low, int high) {
-        switch (random.nextInt(40)) {
+    private int argument(int low, int high, int lively) {
+        switch (random.nextInt(oneIn)) {
             case 0: return low - 1;
             case 1: return high + 1;
             case 2: return random.nextBoolean() ? Integer.MAX_VALUE : Integer.MIN_VALUE;
             case 3: return random.nextInt();
             case 4: return high;
-            default: return low + random.nextInt(high - low + 1);
+            case 5: return low;
+            default: return low + random.nextInt(lively - low + 1);
         }
     }
 
