@@ -33,6 +33,10 @@ public final class JackBoxes {
     private static final int FORM_BYTES = 0, FORM_SHORTS = 1;
     private static final int NO_FINDING = 0, NULL = 1, INDEX = 2, CAST = 3, STORE = 4, SIZE = 5;
 
+    private static final int LEAST_INT = -2147483648;
+    /** BAD where the answer is a long: the least long and 2 more. */
+    private static final long LONG_BAD = -9223372036854775808L - BAD;
+
     private static final int[] DIGEST_STEPS = {0, 1, 2, 9, 59};
 
     private final Boxes boxes = new Boxes();
@@ -366,13 +370,13 @@ public final class JackBoxes {
 
     public long looks(int c, int box, int step, int what) {
         if (c < 0 || c > SIXTEENTHS || !isBox(box) || step < 0 || step > LOOKS_LAST_STEP || !isEither(what)) {
-            return Long.MIN_VALUE - BAD;
+            return LONG_BAD;
         }
         long below = wholeWeight(step);
         long above = weightUp(c, box, step);
         long divisor = commonDivisor(above, below);
         if (divisor == 0) {
-            return Long.MIN_VALUE - BAD;
+            return LONG_BAD;
         }
         return (what == 0 ? above : below) / divisor;
     }
@@ -429,12 +433,12 @@ public final class JackBoxes {
 
     public int get(int s, int form, int i) {
         if (!isSheet(s) || !isForm(form)) {
-            return Integer.MIN_VALUE;
+            return LEAST_INT;
         }
         int wrong = sheets[s].findingAt(form, i);
         if (wrong != NO_FINDING) {
             finding(wrong);
-            return Integer.MIN_VALUE;
+            return LEAST_INT;
         }
         return sheets[s].items[i];
     }

@@ -112,8 +112,7 @@ public final class FaceTest {
             CHECK.holds("import " + imports.group(1), imports.group(1).equals("java.util.Arrays"));
         }
         Matcher library = Pattern.compile("\\b(Arrays|System|Math|Integer|Long)\\.(\\w+)").matcher(code);
-        Set<String> allowed = Set.of("Arrays.fill", "System.arraycopy", "Math.max", "Integer.bitCount",
-            "Integer.MIN_VALUE", "Long.MIN_VALUE");
+        Set<String> allowed = Set.of("Arrays.fill", "System.arraycopy", "Math.max", "Integer.bitCount");
         while (library.find()) {
             CHECK.holds("library " + library.group(), allowed.contains(library.group()));
         }
