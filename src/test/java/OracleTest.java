@@ -49,9 +49,9 @@ public final class OracleTest {
         put("sheet", 5, sheet, form, new int[] {0, 60});
         put("lose", 1, sheet);
         put("lay", 10, sheet, form, item, new int[] {-1, 30});
-        put("get", 8, sheet, form, item);
+        put("get", 12, sheet, form, item);
         put("copy", 8, sheet, item, sheet, item, new int[] {0, 60, 20});
-        put("write", 4, either, sheet);
+        put("write", 8, either, sheet);
         put("count", 8, new int[] {0, 8});
         put("digest", 1);
     }
@@ -98,14 +98,22 @@ public final class OracleTest {
         }
         for (int k = 0; k < CALLS; k++) {
             Method method = calls.get(random.nextInt(calls.size()));
-            if (!ask(method, arguments(method.getName()))) {
+            Object[] arguments = arguments(method.getName());
+            if (!ask(method, arguments) || !mendBoxes(method.getName())) {
                 return false;
             }
-            if (!mendBoxes(method.getName())) {
+            if (method.getName().equals("write") && !lookAt((int) arguments[1])) {
                 return false;
             }
         }
         return ask(JackBoxes.class.getMethod("digest"));
+    }
+
+    /** By lot alone one would hardly ever get what was written: it takes the sheet, its form and a high item. */
+    private boolean lookAt(int sheet) throws Exception {
+        Method get = JackBoxes.class.getMethod("get", int.class, int.class, int.class);
+        int item = random.nextInt(20);
+        return ask(get, sheet, 0, item) && ask(get, sheet, 1, item) && ask(get, sheet, 2, item);
     }
 
     /** A text that is spoilt would make all that comes behind it dull, so it does not stay for long. */
@@ -122,7 +130,7 @@ public final class OracleTest {
     /** A text that is well; its laws and numbers are mostly such that much happens. */
     private boolean typeBoxes() throws Exception {
         Method type = JackBoxes.class.getMethod("type", int.class);
-        int many = random.nextInt(10);
+        int many = random.nextInt(3) > 0 ? random.nextInt(10) : 7 + random.nextInt(3);
         for (int b = 0; b < many; b++) {
             String part = (b > 0 ? ";" : "") + "tttteeeelllwwwx".charAt(random.nextInt(15))
                 + (1 + random.nextInt(random.nextInt(3) > 0 ? 3 : 9)) + (1 + random.nextInt(9));
